@@ -488,6 +488,14 @@ public final class BellObservatory {
             }
         }
 
+        static int sum(int[] row) {
+            int sum = 0;
+            for (int number : row) {
+                sum += number;
+            }
+            return sum;
+        }
+
         static int placeOf(int[] row, int size, int number) {
             for (int place = 0; place < size && place < row.length; place++) {
                 if (row[place] == number) {
@@ -864,7 +872,7 @@ public final class BellObservatory {
         private final Houses houses = new Houses();
         private final Halls halls = new Halls();
         private final Posts posts = new Posts();
-        private final boolean[] blocks = new boolean[CELLS];
+        private final int[] blocks = new int[CELLS];
         private final int[] kinds = new int[CLASSES];
         private int hour = 0;
         private int day = 0;
@@ -877,7 +885,7 @@ public final class BellObservatory {
             houses.take(other.houses);
             halls.take(other.halls);
             posts.take(other.posts);
-            System.arraycopy(other.blocks, 0, blocks, 0, Math.min(blocks.length, other.blocks.length));
+            Rows.take(blocks, other.blocks);
             Rows.take(kinds, other.kinds);
             hour = other.hour;
             day = other.day;
@@ -958,24 +966,16 @@ public final class BellObservatory {
         }
 
         boolean isBlocked(int cell) {
-            return cell >= 0 && cell < blocks.length && blocks[cell];
+            return Rows.at(blocks, cell) == 1;
         }
 
         boolean turnBlock(int cell) {
-            if (cell >= 0 && cell < blocks.length) {
-                blocks[cell] = !blocks[cell];
-            }
+            Rows.put(blocks, cell, isBlocked(cell) ? 0 : 1);
             return isBlocked(cell);
         }
 
         int countBlocks() {
-            int count = 0;
-            for (boolean isBlock : blocks) {
-                if (isBlock) {
-                    count++;
-                }
-            }
-            return count;
+            return Rows.sum(blocks);
         }
 
         int letPass(int hours) {
@@ -1047,11 +1047,7 @@ public final class BellObservatory {
         }
 
         int countRings() {
-            int sum = 0;
-            for (int count : kinds) {
-                sum += count;
-            }
-            return sum;
+            return Rows.sum(kinds);
         }
 
         boolean areRingsComplete() {
@@ -1081,15 +1077,13 @@ public final class BellObservatory {
             if (first == NONE) {
                 return CELLS - countBlocks();
             }
-            int row = Grid.rowOf(posts.cellAt(first));
-            int column = Grid.columnOf(posts.cellAt(first));
-            int far = posts.toldAt(first);
+            int cell = posts.cellAt(first);
             int count = 0;
-            for (int down = -far; down <= far; down++) {
-                int right = far - Math.abs(down);
-                count += countFit(row + down, column + right);
+            for (int row = 0; row < SIDE; row++) {
+                int aside = posts.toldAt(first) - Math.abs(row - Grid.rowOf(cell));
+                count += aside >= 0 ? countFit(row, Grid.columnOf(cell) + aside) : 0;
                 // Straight above and below, left and right are the same cell.
-                count += right == 0 ? 0 : countFit(row + down, column - right);
+                count += aside > 0 ? countFit(row, Grid.columnOf(cell) - aside) : 0;
             }
             return count;
         }

@@ -121,8 +121,8 @@ public final class FaceTest {
     private static void source(String text) {
         String code = text.replaceAll("(?s)/\\*.*?\\*/", "").replaceAll("//.*", "");
         String[] wrong = {"->", "::", "\\btry\\b", "\\bcatch\\b", "\\bfinally\\b", "\\bassert\\b", "\\bsynchronized\\b",
-            "\\bstatic \\{", "\\bprotected\\b", "\\bpackage\\b", "\\binstanceof\\b", "Exact\\(", "\\bthrow [^n]",
-            "\\bwhile\\b", "\\.length\\(\\) \\+ \"", "\" \\+", "\\+ \""};
+            "\\bstatic \\{", "\\bprotected\\b", "\\bpackage\\b", "Exact\\(", "\\bthrow [^n]",
+            "\\.length\\(\\) \\+ \"", "\" \\+", "\\+ \""};
         for (String pattern : wrong) {
             CHECK.due("the code has no " + pattern, false, () -> Pattern.compile(pattern).matcher(code).find());
         }

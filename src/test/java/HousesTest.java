@@ -13,6 +13,7 @@ public final class HousesTest {
         house();
         goAway();
         goAwayMovesNumbers();
+        goAwayOfTheFirstOfTen();
         block();
         hall();
         dropHall();
@@ -100,6 +101,25 @@ public final class HousesTest {
         CHECK.due("all pranks stay counted", 1, () -> x.rings(3));
     }
 
+    private static void goAwayOfTheFirstOfTen() {
+        BellObservatory x = new BellObservatory();
+        for (int cell = 10; cell < 20; cell++) {
+            x.house(cell, cell, 23);
+        }
+        x.ring(8, 1, 0);
+        x.ring(8, 1, 0);
+        x.ring(9, 5, 0);
+        x.goAway(0);
+        CHECK.due("the cell of the last house", 19, () -> x.houseOf(8, 0));
+        CHECK.due("the hours of the last house", 1923, () -> 100 * x.houseOf(8, 1) + x.houseOf(8, 2));
+        CHECK.due("the rings of the last house", 1, () -> x.houseOf(8, 3));
+        CHECK.due("the pranks of the last house", 1, () -> x.houseOf(8, 4));
+        CHECK.due("the rings of the last but one", 2, () -> x.houseOf(7, 3));
+        CHECK.due("a tenth house again", 9, () -> x.house(10, 0, 0));
+        CHECK.due("its rings", 0, () -> x.houseOf(9, 3));
+        CHECK.due("its pranks", 0, () -> x.houseOf(9, 4));
+    }
+
     private static void block() {
         BellObservatory x = new BellObservatory();
         CHECK.due("block(-1)", IMPROPER, () -> x.block(-1));
@@ -163,6 +183,12 @@ public final class HousesTest {
         CHECK.due("the later hall stays where it is", "....0_..", () -> Check.row(x, 2));
         CHECK.due("dropHall(1) again", 1, () -> x.dropHall(1));
         CHECK.due("the house is in no hall", -1, () -> x.houseOf(0, 5));
+        x.hall(3, 0, 0);
+        x.hall(4, 0, 0);
+        x.hall(5, 6, 7);
+        x.dropHall(0);
+        CHECK.due("the last of four moves", "......__", () -> Check.row(x, 5));
+        CHECK.due("a fourth hall again", 3, () -> x.hall(6, 0, 0));
     }
 
     private static void pass() {
@@ -247,5 +273,7 @@ public final class HousesTest {
         x.house(4, 20, 1);
         x.house(5, 22, 1);
         CHECK.due("where three sleep", 23, () -> x.deepest());
+        x.house(6, 0, 1);
+        CHECK.due("as many at midnight are ahead", 0, () -> x.deepest());
     }
 }

@@ -1,6 +1,6 @@
 import java.util.NoSuchElementException;
 
-/** Promises 28 to 30 and 33 to 41: lines, reasons, accounts, undo and the snapshot. */
+/** Promises 28 to 30 and 34 to 41: lines, reasons, accounts, undo and the snapshot. */
 public final class LinesTest {
     private static final Class<?> NO_INDEX = IndexOutOfBoundsException.class;
     private static final Class<?> IMPROPER = IllegalArgumentException.class;
@@ -77,10 +77,16 @@ public final class LinesTest {
         CHECK.due("its length", 20, () -> x.houseLine(1));
         CHECK.due("houseLine(4)", NO_INDEX, () -> x.houseLine(4));
         CHECK.due("the line stays", '3', () -> x.character(3));
+        for (int prank = 0; prank < 11; prank++) {
+            x.ring(0, 9, 9);
+        }
+        CHECK.due("a short line with nine of eleven pranks", "0@9!!!!!!!!!", () -> Check.houseRow(x, 0));
         x.hall(7, 0, 7);
         x.house(62, 0, 0);
         x.ring(1, 0, 1);
         CHECK.due("an echo that was a prank", "3@62!", () -> Check.houseRow(x, 3));
+        x.house(10, 9, 10);
+        CHECK.due("a house that sleeps an hour", "4@10 9-10z", () -> Check.houseRow(x, 4));
     }
 
     private static void character() {
@@ -187,6 +193,8 @@ public final class LinesTest {
         CHECK.due("the mean of 10 of 3", 10.0 / 3.0, () -> x.meanSleep());
         x.goAway(1);
         CHECK.due("the mean of 2 of 2", 1.0, () -> x.meanSleep());
+        x.goAway(0);
+        CHECK.due("the mean of 2", 2.0, () -> x.meanSleep());
     }
 
     private static void prankShare() {

@@ -73,6 +73,14 @@ public final class PostsTest {
         CHECK.due("so that all fit", 64, () -> x.fitting(false));
         CHECK.due("a new post in its place", 1, () -> x.post(30));
         CHECK.due("tells nothing", NOT_FOUND, () -> x.postOf(1, 1));
+        x.post(40);
+        x.post(50);
+        x.tell(3, 4);
+        CHECK.due("one of four goes", 3, () -> x.dropPost(0));
+        CHECK.due("the last of four moves", 50, () -> x.postOf(2, 0));
+        CHECK.due("with what it told", 4, () -> x.postOf(2, 1));
+        CHECK.due("a fourth post again", 3, () -> x.post(10));
+        CHECK.due("tells nothing either", NOT_FOUND, () -> x.postOf(3, 1));
     }
 
     private static void tell() {
@@ -91,7 +99,9 @@ public final class PostsTest {
         CHECK.due("reason 5", 5, () -> x.refusal(false));
         CHECK.due("an echo that was a prank", 1, () -> x.refusal(true));
         x.ring(1, 0, 1);
+        CHECK.due("none tells", 0, () -> x.account(5));
         CHECK.due("tell(0, 0)", 1, () -> x.tell(0, 0));
+        CHECK.due("the first post tells", 1, () -> x.account(5));
         CHECK.due("tell(0, 14)", 1, () -> x.tell(0, 14));
         CHECK.due("tell(0, 14) again", REFUSED, () -> x.tell(0, 14));
         CHECK.due("reason 6", 6, () -> x.refusal(false));

@@ -185,6 +185,7 @@ public final class RingsTest {
         CHECK.due("heard by one other", 2, () -> x.heard(0, 3, 0));
         CHECK.due("heard by none other", 1, () -> x.heard(0, 2, 0));
         CHECK.due("a long tone is heard by all", 3, () -> x.heard(0, 0, 1));
+        CHECK.due("heard from the other end", 3, () -> x.heard(2, 4, 0));
         CHECK.due("alone in a hall", 1, () -> x.heard(3, 9, 9));
         CHECK.due("outside", 1, () -> x.heard(4, 9, 9));
         CHECK.due("nothing was rung", 0, () -> x.account(7));

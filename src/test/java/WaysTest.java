@@ -114,9 +114,11 @@ public final class WaysTest {
         CHECK.due("round(-1)", NOT_FOUND, () -> x.round(-1));
         CHECK.due("steps", 2 + 4 + 1 + 11, () -> x.steps());
         x.goAway(0);
+        CHECK.due("steps then", 6 + 4 + 1, () -> x.steps());
         CHECK.due("it begins at the house 0", 0, () -> x.round(0));
         CHECK.due("which is another one then", 1, () -> x.round(1));
-        CHECK.due("steps then", 6 + 4 + 1, () -> x.steps());
+        x.undo();
+        CHECK.due("steps again", 2 + 4 + 1 + 11, () -> x.steps());
     }
 
     private static void roundWithoutWay() {
