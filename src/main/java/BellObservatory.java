@@ -48,7 +48,6 @@ public final class BellObservatory {
     private static final int ORDER_RING = 3;
     private static final int ORDER_POST = 4;
     private static final int ORDER_TELL = 5;
-    private static final int ORDER_PASS = 6;
 
     private final Town town;
     private final Town ahead;
