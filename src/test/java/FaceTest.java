@@ -15,6 +15,8 @@ import java.util.regex.Pattern;
 /** The public face of the document, and those rules of the language that can be seen in the class and its file. */
 public final class FaceTest {
     private static final Check CHECK = new Check("FaceTest");
+    private static final Pattern METHOD =
+            Pattern.compile("^( {4}| {8})(?:[a-z\\[\\]]+ )*(?:[A-Z]\\w+ )?(\\w+)\\([^;=]*$");
     private static final Pattern SIGNATURE = Pattern.compile("    public (\\w+) (\\w+)\\((.*)\\)(?: throws (.*))?;");
 
     public static void main(String[] args) throws IOException {
@@ -129,5 +131,43 @@ public final class FaceTest {
         CHECK.due("one import", "[import java.util.NoSuchElementException;]",
                 () -> Pattern.compile("(?m)^import .*$").matcher(code).results().map(r -> r.group()).toList().toString());
         CHECK.due("signs from 1 to 127", true, () -> text.chars().allMatch(c -> c >= 1 && c <= 127));
+        CHECK.due("what calls make, but for exceptions", List.of(), () -> madeInCalls(code));
+        CHECK.due("methods of more than sixty lines", List.of(), () -> longMethods(code));
+    }
+
+    /** All that is made stands in a field's own line or in a constructor, so that a run's calls can't fill its room. */
+    private static List<String> madeInCalls(String code) {
+        List<String> made = new ArrayList<>();
+        String method = "";
+        for (String line : code.split("\n")) {
+            Matcher head = METHOD.matcher(line);
+            if (head.find()) {
+                method = head.group(2);
+            }
+            boolean isConstructor = method.matches("[A-Z].*");
+            boolean isField = line.matches(" +private final .* = new .*;");
+            if (line.matches(".*\\bnew .*") && !line.contains("throw new ") && !isConstructor && !isField) {
+                made.add(line.trim());
+            }
+        }
+        return made;
+    }
+
+    private static List<String> longMethods(String code) {
+        List<String> found = new ArrayList<>();
+        String[] lines = code.split("\n");
+        for (int start = 0; start < lines.length; start++) {
+            Matcher head = METHOD.matcher(lines[start]);
+            if (head.find()) {
+                int end = start;
+                while (end < lines.length && !lines[end].equals(head.group(1) + "}")) {
+                    end++;
+                }
+                if (end - start >= 60) {
+                    found.add(head.group(2));
+                }
+            }
+        }
+        return found;
     }
 }

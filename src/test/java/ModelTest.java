@@ -1,17 +1,22 @@
 import java.lang.reflect.InvocationTargetException;
 import java.lang.reflect.Method;
+import java.lang.reflect.Modifier;
 import java.util.ArrayList;
 import java.util.List;
+import java.util.Map;
+import java.util.TreeMap;
 
 /**
  * Promises 1 to 41: long runs of calls, by fixed numbers, in which each answer of the class is compared with that of
- * the model. No object is used for more than the 512 calls that are promised.
+ * the model. No object is used for more than the 512 calls that are promised. The test fails, too, if a method has
+ * answered too seldom without an exception for the comparison to tell anything.
  */
 public final class ModelTest {
     private static final int RUNS = 3000;
     private static final int MOST_CALLS = 512;
     private static final int CALLS_AT_END = 197;
     private static final int CALLS_AT_ONCE = 65;
+    private static final int LEAST_ANSWERS = 300;
     private static final String LETTERS = "hberptw0123456789/-:+=;";
 
     /**
@@ -23,13 +28,15 @@ public final class ModelTest {
         "house crr", "house crr", "house crr", "house crr", "house crr", "goAway n", "block c", "block c", "block c",
         "hall lll", "hall lll", "hall lll", "dropHall k", "pass d", "pass d", "houseOf nw", "houseOf nw", "asleep rz",
         "asleep rz", "deepest", "ring nss", "ring nss", "ring nss", "ring nss", "ring nss", "classOf nrss",
-        "classOf nrss", "echo nns", "echo nns", "heard nss", "heard nss", "rings w", "post c", "post c", "dropPost k",
-        "tell kf", "tell kf", "tell kf", "postOf kw", "postOf kw", "fits c", "fitting z", "fix p", "apart cc",
-        "way ccz", "way ccz", "round p", "round p", "steps", "ranked p", "ranked p", "line l", "line l", "houseLine n",
-        "houseLine n", "character p", "character p", "character p", "append x", "run", "errorPosition", "refusal z",
-        "refusal z", "account w", "account w", "account w", "isWell", "meanSleep", "prankShare", "undo", "undo", "save",
-        "restore", "TEXT", "TEXT", "TEXT", "TEXT",
+        "classOf nrss", "echo nns", "echo nns", "echo nns", "echo nns", "heard nss", "heard nss", "rings w", "post c",
+        "post c", "dropPost k", "tell kf", "tell kf", "tell kf", "postOf kw", "postOf kw", "fits c", "fitting z",
+        "fix p", "apart cc", "way ccz", "way ccz", "round p", "round p", "steps", "ranked p", "ranked p", "line l",
+        "line l", "houseLine n", "houseLine n", "character p", "character p", "character p", "append x", "run",
+        "errorPosition", "refusal z", "refusal z", "account w", "account w", "account w", "isWell", "meanSleep",
+        "prankShare", "undo", "undo", "save", "restore", "TEXT", "TEXT", "TEXT", "TEXT",
     };
+
+    private static final Map<String, Integer> ANSWERS = new TreeMap<>();
 
     private static long seed = 1;
 
@@ -42,6 +49,7 @@ public final class ModelTest {
         for (int run = 1; run <= RUNS; run++) {
             seed = run;
             ModelTest test = new ModelTest();
+            test.beginTown(run % 3);
             while (test.isAlike && test.told.size() + CALLS_AT_ONCE + CALLS_AT_END <= MOST_CALLS) {
                 test.callOne();
             }
@@ -52,7 +60,62 @@ public final class ModelTest {
                 System.exit(1);
             }
         }
+        demandAnswers();
         System.out.println("ModelTest: " + RUNS + " runs answer as the model does");
+    }
+
+    private static void demandAnswers() {
+        ANSWERS.putIfAbsent("a ring with echoes", 0);
+        ANSWERS.putIfAbsent("a way round blocks", 0);
+        for (Method method : Model.class.getDeclaredMethods()) {
+            if (Modifier.isPublic(method.getModifiers())) {
+                ANSWERS.putIfAbsent(method.getName(), 0);
+            }
+        }
+        boolean isEnough = true;
+        for (Map.Entry<String, Integer> entry : ANSWERS.entrySet()) {
+            if (entry.getValue() < LEAST_ANSWERS) {
+                System.out.println("ModelTest: only " + entry.getValue() + " answers of " + entry.getKey());
+                isEnough = false;
+            }
+        }
+        if (!isEnough) {
+            System.exit(1);
+        }
+    }
+
+    /** A town that begins with nothing seldom comes to halls with many houses, or to ways that are long. */
+    private void beginTown(int kind) throws Exception {
+        if (kind == 1) {
+            beginWithHalls();
+        } else if (kind == 2) {
+            beginWithBlocks();
+        }
+    }
+
+    private void beginWithHalls() throws Exception {
+        for (int row = 2; row < 4; row++) {
+            int first = any(3);
+            compare("hall", row, first, 7 - any(3));
+        }
+        int houses = 5 + any(7);
+        for (int house = 0; house < houses; house++) {
+            compare("house", 16 + any(16), any(24), any(24));
+        }
+        compare("post", any(64));
+        compare("save");
+    }
+
+    private void beginWithBlocks() throws Exception {
+        int blocks = 8 + any(34);
+        for (int block = 0; block < blocks; block++) {
+            compare("block", any(64));
+        }
+        int houses = any(16);
+        for (int house = 0; house < houses; house++) {
+            compare("house", any(64), any(24), any(24));
+        }
+        compare("save");
     }
 
     private static int any(int end) {
@@ -186,7 +249,21 @@ public final class ModelTest {
         Object got = answer(x, name, values);
         Object want = answer(model, name, values);
         isAlike = got.equals(want);
+        count(name, values, got);
         told.add("  " + name + List.of(values) + " answers " + got + (isAlike ? "" : ", the model answers " + want));
+    }
+
+    private static void count(String name, Object[] values, Object got) {
+        if (got instanceof String) {
+            return;
+        }
+        ANSWERS.merge(name, 1, Integer::sum);
+        if (name.equals("heard") && (int) got > 1) {
+            ANSWERS.merge("a ring with echoes", 1, Integer::sum);
+        }
+        if (name.equals("way") && (int) got > new Model().apart((int) values[0], (int) values[1])) {
+            ANSWERS.merge("a way round blocks", 1, Integer::sum);
+        }
     }
 
     private static Object answer(Object made, String name, Object[] values) throws Exception {
